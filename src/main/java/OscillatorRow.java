@@ -164,7 +164,7 @@ public final class OscillatorRow {
 
     public int clear() {
         int forgotten = hits.counted;
-        hits.counted = 0;
+        hits.forget();
         return forgotten;
     }
 
@@ -409,19 +409,27 @@ public final class OscillatorRow {
         private final int[] byWatch = new int[MOST_KEPT];
         private final int[] atTime = new int[MOST_KEPT];
         private final int[] withSpeed = new int[MOST_KEPT];
+        private int kept;
         private int counted;
 
         boolean keeps(int n) {
-            return n >= 0 && n < MOST_KEPT && n < counted;
+            return n >= 0 && n < kept;
         }
 
+        // The place to keep a hit has its own count: that of all hits may wrap around on an object used for ever.
         void note(int w, int tick, int units) {
-            if (counted < MOST_KEPT) {
-                byWatch[counted] = w;
-                atTime[counted] = tick;
-                withSpeed[counted] = units;
-            }
             counted++;
+            if (kept < MOST_KEPT) {
+                byWatch[kept] = w;
+                atTime[kept] = tick;
+                withSpeed[kept] = units;
+                kept++;
+            }
+        }
+
+        void forget() {
+            kept = 0;
+            counted = 0;
         }
     }
 }

@@ -6,6 +6,7 @@ public final class NewObjectTest {
         bodiesAreClamped();
         everythingIsZeroAtFirst();
         toleranceIsSixteen();
+        CHECKS.sentence("The constants: `NONE = -2000000000`");
         CHECKS.due("DONE", OscillatorRow.DONE, 0);
         CHECKS.due("REFUSED", OscillatorRow.REFUSED, -1);
         CHECKS.due("DIVERGED", OscillatorRow.DIVERGED, -2);
@@ -14,6 +15,7 @@ public final class NewObjectTest {
     }
 
     private static void bodiesAreClamped() {
+        CHECKS.sentence("So many bodies, clamped to 1 .. 4");
         int[] asked = {Integer.MIN_VALUE, -1, 0, 1, 2, 3, 4, 5, Integer.MAX_VALUE};
         int[] due = {1, 1, 1, 1, 2, 3, 4, 4, 4};
         for (int n = 0; n < asked.length; n++) {
@@ -25,6 +27,7 @@ public final class NewObjectTest {
     }
 
     private static void everythingIsZeroAtFirst() {
+        CHECKS.sentence("0 at first");
         OscillatorRow row = new OscillatorRow(4);
         for (int i = 0; i < 4; i++) {
             CHECKS.due("place", row.place(i), 0);
@@ -44,6 +47,7 @@ public final class NewObjectTest {
 
     // With stiffness 1 a place of 228 makes an error of 16 in a step of length 1, and 236 one of 17.
     private static void toleranceIsSixteen() {
+        CHECKS.sentence("TOLERANCE 16 UNITS");
         OscillatorRow within = new OscillatorRow(1);
         within.body(0, 16, 0);
         within.set(0, 228, 0);

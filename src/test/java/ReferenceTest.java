@@ -2,8 +2,11 @@ import java.util.Random;
 
 /** All promises at once: the same chance calls to the class and to the slow reference. */
 public final class ReferenceTest {
-    private static final int RUNS = 400;
-    private static final int CALLS = 120;
+    private static final int RUNS = 200;
+    /** What an object answers after its 512th call is free. */
+    private static final int MOST_CALLS = 512;
+    private static final int CALLS_OF_A_COMPARISON = 151;
+    private static final int MOST_CALLS_OF_A_TURN = 4;
 
     private final Checks checks = new Checks("reference");
     private final Random random = new Random(20261115);
@@ -11,6 +14,7 @@ public final class ReferenceTest {
     private ReferenceRow reference;
     private int scale;
     private int run;
+    private int calls;
 
     public static void main(String[] args) {
         ReferenceTest test = new ReferenceTest();
@@ -26,14 +30,15 @@ public final class ReferenceTest {
         row = new OscillatorRow(bodies);
         reference = new ReferenceRow(bodies);
         scale = new int[] {40, 3000, 100000, 1000000000}[random.nextInt(4)];
-        for (int call = 0; call < CALLS; call++) {
-            oneCall(call);
+        calls = 0;
+        for (int turn = 0; calls + MOST_CALLS_OF_A_TURN + CALLS_OF_A_COMPARISON <= MOST_CALLS; turn++) {
+            oneCall(turn);
         }
         compareState();
     }
 
-    private void oneCall(int call) {
-        switch (call < 12 ? random.nextInt(6) : random.nextInt(13)) {
+    private void oneCall(int turn) {
+        switch (turn < 12 ? random.nextInt(6) : random.nextInt(13)) {
             case 0 -> bodyCall();
             case 1 -> linkCall();
             case 2 -> setCall();
@@ -41,7 +46,7 @@ public final class ReferenceTest {
             case 4 -> toleranceCall();
             case 5 -> watchCall();
             case 6, 7, 8, 9 -> advanceCall();
-            case 10 -> compareState();
+            case 10 -> askCall();
             case 11 -> hitCall();
             default -> clearCall();
         }
@@ -74,6 +79,7 @@ public final class ReferenceTest {
     }
 
     private void due(String call, long got, long want) {
+        calls++;
         checks.due("run " + run + ": " + call, got, want);
     }
 
@@ -141,9 +147,18 @@ public final class ReferenceTest {
     }
 
     private void clearCall() {
-        if (random.nextInt(4) == 0) {
+        if (random.nextInt(8) == 0) {
             due("clear()", row.clear(), reference.clear());
         }
+    }
+
+    private void askCall() {
+        int i = near(0, 3);
+        int what = near(0, 7);
+        due("place(" + i + ")", row.place(i), reference.place(i));
+        due("speed(" + i + ")", row.speed(i), reference.speed(i));
+        due("push(" + i + ")", row.push(i), reference.push(i));
+        due("count(" + what + ")", row.count(what), reference.count(what));
     }
 
     private void compareState() {
